@@ -641,7 +641,6 @@ public final class GuessFair {
             e.saying = saying;
             e.price = price;
             e.born = day;
-            // An undone envelope may have left its numbers here.
             for (int part = 0; part < ROW; part++) {
                 e.row[part] = 0;
             }
@@ -730,18 +729,19 @@ public final class GuessFair {
 
     /** The steps of a law, as the reader writes them and the laws walk through them. */
     private static final class Step {
-        /** A test is (letter * 3 + sign) * 100 + number; a sized step has its number above it. */
-        static final int NOT = -1, AND = -2, OR = -3, TEST = 0, MORE = 10000, TAX = 20000;
+        static final int NOT = -1, AND = -2, OR = -3;
+        /** What is more or taxed is put on top of these; all from 0 up to MORE are tests. */
+        static final int MORE = 10000, TAX = 20000;
 
         static int test(int letter, int sign, int number) {
-            return TEST + (letter * 3 + sign) * 100 + number;
+            return (letter * 3 + sign) * 100 + number;
         }
 
         static boolean isMet(int step, int[] facts) {
-            int letter = (step - TEST) / 300;
+            int letter = step / 300;
             int fact = letter >= 0 && letter < facts.length ? facts[letter] : 0;
-            int number = (step - TEST) % 100;
-            switch ((step - TEST) / 100 % 3) {
+            int number = step % 100;
+            switch (step / 100 % 3) {
                 case 0: return fact < number;
                 case 1: return fact == number;
                 default: return fact > number;
@@ -808,7 +808,7 @@ public final class GuessFair {
                 if (step >= Step.MORE) {
                     sum += hasBit(stack, 0) ? amount(step) : 0;
                     stack = 0;
-                } else if (step >= Step.TEST) {
+                } else if (step >= 0) {
                     stack = stack << 1 | (Step.isMet(step, facts) ? 1 : 0);
                 } else {
                     stack = Step.joined(step, stack);
@@ -1005,25 +1005,21 @@ public final class GuessFair {
 
         private int gross(Envelope e, int world, int saying, int day) {
             boolean isTrue = hasBit(saying, world);
+            boolean isBeside = hasBit(saying << 1 | saying >> 1, world);
             int base = laws.baseOf(fair.law);
             int whole = base * e.v;
             int plain = isTrue ? whole : 0;
+            int beside = isBeside ? whole / 2 : 0;
+            int late = Math.max(0, plain - (day - e.born));
             switch (e.kind) {
-                case NEAR: return near(whole, world, saying);
+                case NEAR: return isTrue ? whole : beside;
                 case RARE: return isTrue ? rare(whole, saying) : 0;
-                case LATE: return Math.max(0, plain - (day - e.born));
-                case SURPRISING: return near(whole, world, saying) + (isTrue ? CHANCE_MOST - fair.chances[world] : 0);
+                case LATE: return late;
+                case SURPRISING: return isTrue ? whole + CHANCE_MOST - fair.chances[world] : beside;
                 case CONTRARY: return isTrue ? rare(whole, saying) : base;
-                case TOLD: return Math.max(0, plain - (day - e.born)) + e.row[day & ROW - 1];
+                case TOLD: return late + e.row[day & ROW - 1];
                 default: return plain;
             }
-        }
-
-        private static int near(int whole, int world, int saying) {
-            if (hasBit(saying, world)) {
-                return whole;
-            }
-            return hasBit(saying << 1 | saying >> 1, world) ? whole / 2 : 0;
         }
 
         private static int rare(int whole, int saying) {

@@ -4,9 +4,11 @@ public final class LawsTest {
         signs();
         numbersOfLaws();
         faults();
+        eachSignAtEachPlace();
         nesting();
         clauses();
         longestText();
+        longLaws();
         bases();
         letters();
         joints();
@@ -69,6 +71,20 @@ public final class LawsTest {
         }
     }
 
+    private static void eachSignAtEachPlace() {
+        String law = "more 1 !(e<1&k=23)|s>3;tax 15 c=6;base 89";
+        for (int at = 0; at < law.length(); at++) {
+            for (char sign = 0; sign < 128; sign++) {
+                String text = law.substring(0, at) + sign + law.substring(at + 1);
+                Model m = new Model();
+                for (int n = 0; n < text.length(); n++) {
+                    m.feed(text.charAt(n));
+                }
+                Due.is("10: sign " + (int) sign + " at place " + at, Due.law(new GuessFair(), text), m.law());
+            }
+        }
+    }
+
     private static void nesting() {
         Due.isLaw(new GuessFair(), "more 1 ((((e=1))))", 0);
         Due.isLaw(new GuessFair(), "more 1 (((((e=1)))))", -21);
@@ -110,6 +126,24 @@ public final class LawsTest {
         Due.is("a law of 100 signs that ends too early: count(2)", x.count(2), 1);
     }
 
+    /** Long laws, one behind the other: what one leaves would be seen in the next. */
+    private static void longLaws() {
+        GuessFair x = Due.fair(1, 1);
+        x.envelope(0, 0, 0, 0);
+        for (int n = 0; n < 3; n++) {
+            StringBuilder text = new StringBuilder("more 1" + n + " w=0");
+            for (int m = 0; m < 18; m++) {
+                text.append("|w>1");
+            }
+            Due.isLaw(x, text + ";tax 1 w<1", n);
+            Due.pays("long law " + n, x, 0, 9 + n, 0);
+            Due.isLaw(x, "more 5 e<9|e<9&e<9|", -29);
+            Due.pays("long law " + n + " after a fault", x, 0, 9 + n, 0);
+        }
+        Due.isLaw(x, "more 3 w=1", 3);
+        Due.pays("a short law after long ones", x, 0, 0, 3);
+    }
+
     private static void bases() {
         GuessFair x = Due.fair(1);
         x.envelope(0, 3, 1, 0);
@@ -146,6 +180,7 @@ public final class LawsTest {
             Due.pays(tests[n], x, 1, wants[n]);
         }
         GuessFair x = Due.fair(1);
+        x.pass(50);
         x.envelope(0, 0, 0, 0);
         Due.law(x, "more 1 d=99;more 2 d>98;more 4 d<99");
         x.pass(98);
