@@ -13,7 +13,7 @@ public final class GuessFair {
     private static final int CHANCE_MOST = 30, V_MOST = 9, PRICE_MOST = 99, DAYS_AT_ONCE = 99;
     private static final int LAST_DAY = 9999, PAID_MOST = 9999999, OLD_MOST = 99;
     private static final int BOOKED_MOST = 9999, WAIT_MOST = 60, WORTH_MOST = 99;
-    private static final int PLAIN_BASE = 10, FAULT_AHEAD = -10, ROW_ENDED = 100;
+    private static final int PLAIN_BASE = 10, SURPRISE = 30, FAULT_AHEAD = -10, ROW_ENDED = 100;
 
     private static final int ENVELOPE = 0, NEAR = 1, RARE = 2, LATE = 3;
     private static final int SURPRISING = 4, CONTRARY = 5, TOLD = 6;
@@ -1015,7 +1015,7 @@ public final class GuessFair {
                 case NEAR: return isTrue ? whole : beside;
                 case RARE: return isTrue ? rare(whole, saying) : 0;
                 case LATE: return late;
-                case SURPRISING: return isTrue ? whole + CHANCE_MOST - fair.chances[world] : beside;
+                case SURPRISING: return isTrue ? whole + SURPRISE - fair.chances[world] : beside;
                 case CONTRARY: return isTrue ? rare(whole, saying) : base;
                 case TOLD: return late + e.row[day & ROW - 1];
                 default: return plain;
