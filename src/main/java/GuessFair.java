@@ -301,11 +301,11 @@ public final class GuessFair {
     }
 
     public int crowd(int what) {
-        if (fair.worlds == 0) {
-            return NEITHER;
-        }
         if (!isUpTo(what, 1)) {
             return NONE;
+        }
+        if (fair.worlds == 0) {
+            return NEITHER;
         }
         int world = fair.dearestWorld();
         return what == 0 ? world : fair.pricesIn(world);

@@ -421,8 +421,8 @@ final class Model {
     }
 
     int crowd(int what) {
-        if (chances.isEmpty()) return -5;
         if (!in(what, 0, 1)) return NONE;
+        if (chances.isEmpty()) return -5;
         IntUnaryOperator worth = w -> envelopes.stream().filter(e -> e.isTrue(w)).mapToInt(Envelope::price).sum();
         int world = first(chances.size() - 1, worth);
         return what == 0 ? world : worth.applyAsInt(world);

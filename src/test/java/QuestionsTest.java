@@ -329,6 +329,8 @@ public final class QuestionsTest {
         x.envelope(0, 1, 0, 99);
         Due.is("28: crowd(0) without worlds", x.crowd(0), NEITHER);
         Due.is("28: crowd(1) without worlds", x.crowd(1), NEITHER);
+        Due.is("28: crowd(2) without worlds", x.crowd(2), GuessFair.NONE);
+        Due.is("28: crowd(-1) without worlds", x.crowd(-1), GuessFair.NONE);
         x.world(1);
         x.world(30);
         x.world(1);
