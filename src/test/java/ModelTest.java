@@ -24,7 +24,7 @@ public final class ModelTest {
     public static void main(String[] args) {
         for (int seed = 0; seed < RUNS; seed++) {
             ModelTest run = new ModelTest(seed);
-            run.all(seed % 4 == 0);
+            run.all(seed % 4 == 0, seed % 8 == 3);
             if (run.isWrong) {
                 System.out.println("run " + seed + ":" + run.calls);
                 System.exit(1);
@@ -32,9 +32,12 @@ public final class ModelTest {
         }
     }
 
-    private void all(boolean isBare) {
+    private void all(boolean isBare, boolean isLate) {
         if (!isBare) {
             start();
+        }
+        for (int n = 0; isLate && n < 100; n++) {
+            call(10, 99, 0, 0, 0, 0);
         }
         while (made < CALLS && !isWrong) {
             if (random.nextInt(12) == 0 && made < CALLS - 101) {
