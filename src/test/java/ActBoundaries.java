@@ -7,15 +7,10 @@ final class ActBoundaries {
     }
 
     static void all() {
-        wrapping();
-        actRefusals();
-        actChangesNoMore();
-        bodies();
-        traces();
-        takenKinds();
-        takenRefusals();
-        countsAtLeast();
-        countsAtMost();
+        Sentence.each(
+            ActBoundaries::wrapping, ActBoundaries::actRefusals, ActBoundaries::actChangesNoMore, ActBoundaries::bodies,
+            ActBoundaries::traces, ActBoundaries::takenKinds, ActBoundaries::takenRefusals, ActBoundaries::countsAtLeast,
+            ActBoundaries::countsAtMost);
     }
 
     /** Envelope 3 alone counts, of that kind: those ahead of it are plain. */

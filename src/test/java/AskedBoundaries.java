@@ -4,10 +4,8 @@ final class AskedBoundaries {
     }
 
     static void all() {
-        things();
-        questions();
-        choices();
-        tapes();
+        Sentence.each(
+            AskedBoundaries::things, AskedBoundaries::questions, AskedBoundaries::choices, AskedBoundaries::tapes);
     }
 
     private static Sentence of(int promise) {

@@ -7,17 +7,10 @@ final class BookBoundaries {
     }
 
     static void all() {
-        books();
-        emptyBooks();
-        bookRefusals();
-        looked();
-        judgeEnds();
-        judgeOtherwise();
-        judgeRowEnds();
-        judgeRefusals();
-        images();
-        undone();
-        imageKeeps();
+        Sentence.each(
+            BookBoundaries::books, BookBoundaries::emptyBooks, BookBoundaries::bookRefusals, BookBoundaries::looked,
+            BookBoundaries::judgeEnds, BookBoundaries::judgeOtherwise, BookBoundaries::judgeRowEnds,
+            BookBoundaries::judgeRefusals, BookBoundaries::images, BookBoundaries::undone, BookBoundaries::imageKeeps);
     }
 
     private static void books() {

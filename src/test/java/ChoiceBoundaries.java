@@ -7,15 +7,10 @@ final class ChoiceBoundaries {
     }
 
     static void all() {
-        hedge();
-        against();
-        whenEnds();
-        whenTies();
-        whenRefusals();
-        crowd();
-        cheap();
-        burnt();
-        worth();
+        Sentence.each(
+            ChoiceBoundaries::hedge, ChoiceBoundaries::against, ChoiceBoundaries::whenEnds, ChoiceBoundaries::whenTies,
+            ChoiceBoundaries::whenRefusals, ChoiceBoundaries::crowd, ChoiceBoundaries::cheap, ChoiceBoundaries::burnt,
+            ChoiceBoundaries::worth);
     }
 
     private static void hedge() {

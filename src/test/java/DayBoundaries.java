@@ -6,20 +6,11 @@ final class DayBoundaries {
     }
 
     static void all() {
-        told();
-        passing();
-        coming();
-        mostPaid();
-        payRefusals();
-        plain();
-        nearSides();
-        nearHalves();
-        rare();
-        late();
-        surprising();
-        contrary();
-        toldOnes();
-        belowNothing();
+        Sentence.each(
+            DayBoundaries::told, DayBoundaries::passing, DayBoundaries::coming, DayBoundaries::mostPaid,
+            DayBoundaries::payRefusals, DayBoundaries::plain, DayBoundaries::nearSides, DayBoundaries::nearHalves,
+            DayBoundaries::rare, DayBoundaries::late, DayBoundaries::surprising, DayBoundaries::contrary,
+            DayBoundaries::toldOnes, DayBoundaries::belowNothing);
     }
 
     private static void pays(Sentence s, String when, GuessFair x, int envelope, int... wants) {

@@ -6,25 +6,12 @@ final class LawBoundaries {
     }
 
     static void all() {
-        signs();
-        fullText();
-        emptyThen();
-        sixLaws();
-        faultsKeepTheLaw();
-        clauses();
-        blanksAndDigits();
-        tests();
-        parts();
-        nesting();
-        firstBytes();
-        endsTooEarly();
-        newestHolds();
-        withoutLaws();
-        bases();
-        extras();
-        letters();
-        signsOfTests();
-        days();
+        Sentence.each(
+            LawBoundaries::signs, LawBoundaries::fullText, LawBoundaries::emptyThen, LawBoundaries::sixLaws,
+            LawBoundaries::faultsKeepTheLaw, LawBoundaries::clauses, LawBoundaries::blanksAndDigits, LawBoundaries::tests,
+            LawBoundaries::parts, LawBoundaries::nesting, LawBoundaries::firstBytes, LawBoundaries::endsTooEarly,
+            LawBoundaries::newestHolds, LawBoundaries::withoutLaws, LawBoundaries::bases, LawBoundaries::extras,
+            LawBoundaries::letters, LawBoundaries::signsOfTests, LawBoundaries::days);
     }
 
     private static Sentence law(Sentence s, String text, int want) {

@@ -7,19 +7,11 @@ final class QuestionBoundaries {
     }
 
     static void all() {
-        means();
-        meanRefusals();
-        gains();
-        leasts();
-        opened();
-        left();
-        odds();
-        knew();
-        bestEnds();
-        bestTies();
-        bestRefusals();
-        safest();
-        sure();
+        Sentence.each(
+            QuestionBoundaries::means, QuestionBoundaries::meanRefusals, QuestionBoundaries::gains,
+            QuestionBoundaries::leasts, QuestionBoundaries::opened, QuestionBoundaries::left, QuestionBoundaries::odds,
+            QuestionBoundaries::knew, QuestionBoundaries::bestEnds, QuestionBoundaries::bestTies,
+            QuestionBoundaries::bestRefusals, QuestionBoundaries::safest, QuestionBoundaries::sure);
     }
 
     private static void fraction(Sentence s, String call, GuessFair x, int envelope, long above, long below) {

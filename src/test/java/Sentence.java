@@ -4,11 +4,24 @@ import java.util.function.ToLongFunction;
 
 /** A sentence of the document that names a boundary case, with the promise that it belongs to. */
 final class Sentence {
+    private static Sentence latest;
     private final String name;
 
     private Sentence(int promise, String words) {
         name = "promise " + promise + ", \"" + words + "\": ";
+        latest = this;
         Document.quote(promise, words);
+    }
+
+    /** Makes tests one by one; one that throws is told, and does not end the others. */
+    static void each(Runnable... tests) {
+        for (Runnable test : tests) {
+            try {
+                test.run();
+            } catch (RuntimeException e) {
+                latest.is("a call throws " + e, 1, 0);
+            }
+        }
     }
 
     static Sentence of(int promise, String words) {

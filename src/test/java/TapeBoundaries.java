@@ -7,17 +7,10 @@ final class TapeBoundaries {
     }
 
     static void all() {
-        tapes();
-        tapesOfNothing();
-        tapeRefusals();
-        items();
-        itemRefusals();
-        reads();
-        shifts();
-        shiftOverlaps();
-        shiftRefusals();
-        shiftPlaces();
-        shiftEnds();
+        Sentence.each(
+            TapeBoundaries::tapes, TapeBoundaries::tapesOfNothing, TapeBoundaries::tapeRefusals, TapeBoundaries::items,
+            TapeBoundaries::itemRefusals, TapeBoundaries::reads, TapeBoundaries::shifts, TapeBoundaries::shiftOverlaps,
+            TapeBoundaries::shiftRefusals, TapeBoundaries::shiftPlaces, TapeBoundaries::shiftEnds);
     }
 
     private static void tapes() {

@@ -6,18 +6,11 @@ final class WorldBoundaries {
     }
 
     static void all() {
-        newObject();
-        constants();
-        lastCall();
-        worlds();
-        chances();
-        envelopeNumbers();
-        envelopeRefusals();
-        ofAnEnvelope();
-        prices();
-        sayings();
-        rows();
-        rowRefusals();
+        Sentence.each(
+            WorldBoundaries::newObject, WorldBoundaries::constants, WorldBoundaries::lastCall, WorldBoundaries::worlds,
+            WorldBoundaries::chances, WorldBoundaries::envelopeNumbers, WorldBoundaries::envelopeRefusals,
+            WorldBoundaries::ofAnEnvelope, WorldBoundaries::prices, WorldBoundaries::sayings, WorldBoundaries::rows,
+            WorldBoundaries::rowRefusals);
     }
 
     private static void newObject() {
