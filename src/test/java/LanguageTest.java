@@ -26,6 +26,7 @@ public final class LanguageTest {
         constants();
         words();
         insides();
+        lengths();
         room();
         Due.end();
     }
@@ -102,6 +103,16 @@ public final class LanguageTest {
                 isTrue("rule 11: seven parameters: " + method, method.getParameterCount() <= 7);
             }
         }
+    }
+
+    private static void lengths() throws IOException {
+        Matcher m = Pattern.compile("(?ms)^( {4}| {8})(?:\\w[\\w\\[\\] ]*\\([^)]*\\)) \\{$.*?^\\1\\}$").matcher(Files.readString(SOURCE));
+        int found = 0;
+        while (m.find()) {
+            isTrue("rule 11: some sixty lines: " + m.group().lines().findFirst().get(), m.group().lines().count() <= 60);
+            found++;
+        }
+        isTrue("methods that were looked at: " + found, found > 100);
     }
 
     /** The dearest calls, as many as a run may have, put nothing into the room. */
